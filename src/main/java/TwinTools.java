@@ -48,7 +48,7 @@ public final class TwinTools {
         }
         now.valleys[now.valleyCount] = spare;
         now.valleyCount++;
-        // THE IMAGE may share the one that was just read, so the next text gets an object of its own.
+        // The worlds keep the one that was read, so the next text is read by another.
         spare = new Valley(now.tape);
         return now.valleyCount - 1;
     }
@@ -261,9 +261,7 @@ public final class TwinTools {
             return UNJOINED;
         }
         guess.copyFrom(now);
-        guess.partAll();
-        plan.joinBest = -1;
-        plan.joinRest(guess, 0);
+        plan.seekJoin(guess);
         return k == -1 || k >= MAX_JOINED ? plan.joinBest : plan.joinRow[k];
     }
 
@@ -548,10 +546,6 @@ public final class TwinTools {
             twin[tool] = NOTHING;
         }
 
-        void partAll() {
-            Arrays.fill(twin, NOTHING);
-        }
-
         int leastSingle() {
             for (int t = 0; t < toolCount; t++) {
                 if (twin[t] < 0) {
@@ -736,7 +730,7 @@ public final class TwinTools {
         int withOtherFree(int person, int hour) {
             int bits = 0;
             for (int p = 0; p < world.peopleCount; p++) {
-                if (p != person && world.isFree(p, hour)) {
+                if (p != person && (world.free[p] >> hour & 1) != 0) {
                     bits |= twinHeld[p];
                 }
             }
@@ -840,9 +834,10 @@ public final class TwinTools {
             for (int i = 0; i < pairCount; i++) {
                 for (int rest = 0; rest < 1 << i; rest++) {
                     int set = rest | 1 << i;
-                    setWorth[set] = setWorth[rest] + worth[pairs[i]][hour];
-                    if ((setHours[set] >> hour & 1) != 0 && setWorth[set] > setWorth[best]) {
-                        best = set;
+                    // What a set that can leaves out is a set that can, so its worth is there.
+                    if ((setHours[set] >> hour & 1) != 0) {
+                        setWorth[set] = setWorth[rest] + worth[pairs[i]][hour];
+                        best = setWorth[set] > setWorth[best] ? set : best;
                     }
                 }
             }
@@ -918,8 +913,14 @@ public final class TwinTools {
             return before - bestDay();
         }
 
+        void seekJoin(World at) {
+            Arrays.fill(at.twin, NOTHING);
+            joinBest = -1;
+            joinRest(at, 0);
+        }
+
         /** The least single tool takes each other one in turn, so that the rows of twins come in their order. */
-        void joinRest(World at, int joined) {
+        private void joinRest(World at, int joined) {
             int a = at.leastSingle();
             if (a < 0 || joined >= MAX_JOINED / 2) {
                 look(at);

@@ -16,10 +16,11 @@ public final class OracleTest {
     }
 
     public static void main(String[] args) {
-        for (int seed = 0; seed < RUNS; seed++) {
+        int runs = args.length > 0 ? Integer.parseInt(args[0]) : RUNS;
+        for (int seed = 0; seed < runs; seed++) {
             new OracleTest(seed).run();
         }
-        for (int i = 0; i < 200000; i++) {
+        for (int i = 0; i < runs * 100; i++) {
             readTwice(new Random(i), i);
         }
         CHECKS.end("OracleTest");
