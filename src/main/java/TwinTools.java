@@ -950,7 +950,7 @@ public final class TwinTools {
         private static final int HOUR = 0, SORT = 1, TOOL = 2, KIND = 3, ONE_HOUSE = 4, LETTERS = 5;
         private static final int BELOW = 0, EQUAL = 1, SIGNS = 3, NUMBERS = 100;
         private static final int AND = -1, OR = -2, NOT = -3;
-        private static final int EITHER = 0, BOTH = 1, FACTOR = 2;
+        private static final int EITHER = 0, FACTOR = 2;
         // Each ( that is open leaves at most one part of an | and one of an & waiting for the other.
         private static final int MAX_PARTS = 2 * (MAX_OPEN + 1) + 1;
 
@@ -1023,7 +1023,7 @@ public final class TwinTools {
             return true;
         }
 
-        /** An E, a T or an F, by its level. */
+        /** An E, a T or an F, as the level rises: each is made of the next one's, an F of what it opens. */
         private boolean readPart(int level, int open) {
             if (level >= FACTOR) {
                 return next() == '!' || next() == '(' ? readOpened(open + 1) : readTest();
