@@ -698,7 +698,7 @@ public final class TwinTools {
             inOneHouse |= sameHouse ? both : 0;
             twinHeld[another.number] |= 1 << tool;
             twinHeld[one.number] |= 1 << other;
-            boolean can = one != another && (world.broken & both) == 0;
+            boolean can = one.number != another.number && (world.broken & both) == 0;
             pairs[pairCount] = tool;
             pairHolders[pairCount] = 1 << one.number | 1 << another.number;
             pairHours[pairCount] = can ? world.free[one.number] & world.free[another.number] : 0;
