@@ -55,25 +55,6 @@ public final class PromisesTest {
         CHECKS.due(call, got, want);
     }
 
-    /** People of these kinds, v 0, house 0, always free. */
-    private static TwinTools people(int... kinds) {
-        TwinTools x = new TwinTools();
-        for (int kind : kinds) {
-            x.free(x.person(kind, 0, 0), ALL);
-        }
-        return x;
-    }
-
-    /** Tools of sort 0 held by these, neighbours being twins. */
-    private static void pairs(TwinTools x, int... holders) {
-        for (int holder : holders) {
-            x.tool(0, holder);
-        }
-        for (int t = 0; t + 1 < holders.length; t += 2) {
-            x.twin(t, t + 1);
-        }
-    }
-
     private static void newObject() {
         TwinTools x = new TwinTools();
         for (int what = 0; what < 7; what++) {
@@ -127,8 +108,8 @@ public final class PromisesTest {
     }
 
     private static void valleyBehindFault() {
-        TwinTools x = people(HAND, HAND);
-        pairs(x, 0, 1);
+        TwinTools x = Checks.people(HAND, HAND);
+        Checks.pairs(x, 0, 1);
         due("3 fault at the end", Checks.valley(x, "worth 7 h=0;bell 2;worth 8 h=1;"), -10 - 31);
         due("3 anew", Checks.valley(x, "less 5 h=1"), 0);
         due("3 nothing is left of the faulty one", x.worth(0, 0), 0);
@@ -238,7 +219,7 @@ public final class PromisesTest {
     }
 
     private static void row() {
-        TwinTools x = people(TOLD, GUESSING);
+        TwinTools x = Checks.people(TOLD, GUESSING);
         due("6 first", x.row(0, 3, 0), NOTHING);
         due("6 again", x.row(0, 3, 9), 0);
         due("6 nothing", x.row(0, 3, -1), 9);
@@ -270,8 +251,8 @@ public final class PromisesTest {
     }
 
     private static void twin() {
-        TwinTools x = people(HAND);
-        pairs(x, 0, 0, 0, 0);
+        TwinTools x = Checks.people(HAND);
+        Checks.pairs(x, 0, 0, 0, 0);
         due("8 were", x.twin(1, 0), 1);
         due("8 were not", x.twin(1, 2), 0);
         due("8 0 has none", x.of(0, 2), NOTHING);
@@ -286,8 +267,8 @@ public final class PromisesTest {
     }
 
     private static void broken() {
-        TwinTools x = people(HAND);
-        pairs(x, 0, 0);
+        TwinTools x = Checks.people(HAND);
+        Checks.pairs(x, 0, 0);
         due("9 was not", x.broken(1, true), 0);
         due("9 was", x.broken(1, true), 1);
         due("9 is", x.of(1, 3), 1);
@@ -298,7 +279,7 @@ public final class PromisesTest {
     }
 
     private static void give() {
-        TwinTools x = people(HAND, HAND);
+        TwinTools x = Checks.people(HAND, HAND);
         x.tool(0, 0);
         due("10 from 0", x.give(0, 1), 0);
         due("10 to the same", x.give(0, 1), 1);
@@ -308,7 +289,7 @@ public final class PromisesTest {
     }
 
     private static void of() {
-        TwinTools x = people(HAND, HAND);
+        TwinTools x = Checks.people(HAND, HAND);
         x.free(1, 5);
         x.tool(3, 1);
         x.tool(2, 0);
@@ -346,10 +327,10 @@ public final class PromisesTest {
     }
 
     private static void atHand() {
-        TwinTools x = people(HAND, HAND);
+        TwinTools x = Checks.people(HAND, HAND);
         x.free(0, 2);
         x.tool(0, 0);
-        pairs(x, 0, 0);
+        Checks.pairs(x, 0, 0);
         x.twin(1, 2);
         due("13 hand", x.at(0, 1), 1);
         due("13 hand not free", x.at(0, 0), NOTHING);
@@ -362,9 +343,9 @@ public final class PromisesTest {
     }
 
     private static void atBell() {
-        TwinTools x = people(BELL, HAND);
+        TwinTools x = Checks.people(BELL, HAND);
         x.free(0, ALL - (1 << 12));
-        pairs(x, 0, 1, 0, 1, 0, 1);
+        Checks.pairs(x, 0, 1, 0, 1, 0, 1);
         due("13 bell, none dearer", x.at(0, 0), 0);
         due("13 bell without a valley", x.at(0, 6), 0);
         due("13 bell, no multiple", x.at(0, 5), NOTHING);
@@ -388,7 +369,7 @@ public final class PromisesTest {
         x.person(HAND, 0, 0);
         x.person(HAND, 0, 1);
         x.free(0, 3);
-        pairs(x, 0, 1, 0, 2);
+        Checks.pairs(x, 0, 1, 0, 2);
         due("13 home", x.at(0, 0), 2);
         due("13 home, not free", x.at(0, 2), NOTHING);
         x.give(3, 1);
@@ -411,10 +392,10 @@ public final class PromisesTest {
     }
 
     private static void atGuessing() {
-        TwinTools x = people(GUESSING, HAND, HAND);
+        TwinTools x = Checks.people(GUESSING, HAND, HAND);
         x.free(1, 1);
         x.free(2, 3);
-        pairs(x, 0, 1, 0, 2, 0, 0);
+        Checks.pairs(x, 0, 1, 0, 2, 0, 0);
         Checks.valley(x, "worth 2 t=0;worth 1 t=2;worth 9 t=4");
         due("13 guessing, most worth", x.at(0, 0), 0);
         due("13 guessing, the other one is free", x.at(0, 1), 2);
@@ -429,7 +410,7 @@ public final class PromisesTest {
         TwinTools x = new TwinTools();
         x.person(LIFTING, 2, 0);
         x.person(HAND, 0, 0);
-        pairs(x, 0, 1, 0, 1);
+        Checks.pairs(x, 0, 1, 0, 1);
         x.free(0, 1 << 6 | 1);
         due("13 lifting as bell", x.at(0, 6), 0);
         due("13 lifting, no bell", x.at(0, 5), 2);
@@ -450,7 +431,7 @@ public final class PromisesTest {
         x.person(LATE, 9, 3);
         x.person(HAND, 0, 3);
         x.person(HAND, 0, 0);
-        pairs(x, 0, 2, 0, 1);
+        Checks.pairs(x, 0, 2, 0, 1);
         x.free(0, 1 | 1 << 23 | 1 << 15);
         due("13 late, 0 ahead of 9", x.at(0, 9), 2);
         due("13 late, 23 ahead of 8", x.at(0, 8), 2);
@@ -461,8 +442,8 @@ public final class PromisesTest {
     }
 
     private static void atTold() {
-        TwinTools x = people(TOLD, HAND);
-        pairs(x, 0, 1, 0, 1);
+        TwinTools x = Checks.people(TOLD, HAND);
+        Checks.pairs(x, 0, 1, 0, 1);
         x.tool(0, 0);
         x.row(0, 1, 2);
         x.row(0, 2, 4);
@@ -488,8 +469,8 @@ public final class PromisesTest {
     }
 
     private static void worth() {
-        TwinTools x = people(HAND, HAND);
-        pairs(x, 0, 1);
+        TwinTools x = Checks.people(HAND, HAND);
+        Checks.pairs(x, 0, 1);
         x.tool(0, 0);
         due("14 without a valley", x.worth(0, 0), 0);
         Checks.valley(x, "worth 5 h<3;less 7 h=2|h=4;worth 1 h>22");
@@ -568,9 +549,9 @@ public final class PromisesTest {
     }
 
     private static void hour() {
-        TwinTools x = people(HAND, HAND, HAND);
+        TwinTools x = Checks.people(HAND, HAND, HAND);
         x.free(2, 1);
-        pairs(x, 0, 1, 1, 2);
+        Checks.pairs(x, 0, 1, 1, 2);
         due("15 goes", x.hour(0, 0), 1);
         due("15 the third one waits", x.hour(0, 1), 8);
         x.broken(0, true);
@@ -587,10 +568,10 @@ public final class PromisesTest {
     }
 
     private static void hourSets() {
-        TwinTools x = people(HAND, BELL, HOME, TOLD, HAND);
+        TwinTools x = Checks.people(HAND, BELL, HOME, TOLD, HAND);
         x.free(4, 2);
         // Pairs 0 (people 0 1), 2 (1 2), 4 (2 3), 6 (4 4), 8 (0 4).
-        pairs(x, 0, 1, 1, 2, 2, 3, 4, 4, 0, 4);
+        Checks.pairs(x, 0, 1, 1, 2, 2, 3, 4, 4, 0, 4);
         due("15 most without a valley", x.hour(0, 2), 0);
         due("15 its set", x.hour(0, 3), 0);
         due("15 many", x.hour(0, 4), 2);
@@ -617,15 +598,15 @@ public final class PromisesTest {
         y.person(HAND, 0, 1);
         y.free(0, ALL);
         y.free(1, ALL);
-        pairs(y, 0, 1);
+        Checks.pairs(y, 0, 1);
         Checks.valley(y, "worth 5 x=1;worth 2 x=0");
         due("15 in two houses", y.hour(7, 2), 2);
     }
 
     private static void day() {
-        TwinTools x = people(HAND, BELL, HAND);
+        TwinTools x = Checks.people(HAND, BELL, HAND);
         x.free(0, 0xfff);
-        pairs(x, 0, 1, 2, 2);
+        Checks.pairs(x, 0, 1, 2, 2);
         Checks.valley(x, "worth 2 h>3;less 1 h=0;bell 3");
         due("16 gone", x.of(0, 4), 1 | 1 << 3 | 1 << 6 | 1 << 9);
         due("16 all worth", x.day(0), -1 + 0 + 2 + 2);
@@ -638,9 +619,9 @@ public final class PromisesTest {
     }
 
     private static void change() {
-        TwinTools x = people(HAND, HAND, HAND, HAND);
+        TwinTools x = Checks.people(HAND, HAND, HAND, HAND);
         x.free(1, 0);
-        pairs(x, 0, 1, 2, 3);
+        Checks.pairs(x, 0, 1, 2, 3);
         Checks.valley(x, "worth 1 t=0;worth 3 t=0&h=5");
         due("17 before", x.day(2), 0);
         due("17 one", x.change(0), 1);
@@ -654,22 +635,22 @@ public final class PromisesTest {
         due("17 what 3", x.change(3), NONE);
         due("17 what -1", x.change(-1), NONE);
         // Whom the lesser tool is held by counts, so twins may change hands.
-        TwinTools y = people(HAND, BELL);
-        pairs(y, 0, 1);
+        TwinTools y = Checks.people(HAND, BELL);
+        Checks.pairs(y, 0, 1);
         Checks.valley(y, "worth 1 k=1");
         due("17 twins", y.change(0), 0);
         due("17 twins, other", y.change(1), 1);
         due("17 twins, more", y.change(2), 24);
         // Two tools of one are not changed.
-        TwinTools z = people(HAND, HAND);
-        pairs(z, 0, 0);
+        TwinTools z = Checks.people(HAND, HAND);
+        Checks.pairs(z, 0, 0);
         Checks.valley(z, "worth 1 h<24");
         due("17 one holder", z.change(0), NOTHING);
     }
 
     private static void awayAndWorst() {
-        TwinTools x = people(HAND, HAND, HAND, HAND);
-        pairs(x, 0, 1, 1, 2);
+        TwinTools x = Checks.people(HAND, HAND, HAND, HAND);
+        Checks.pairs(x, 0, 1, 1, 2);
         Checks.valley(x, "worth 3 t=0;worth 2 t=2");
         due("18 away 0", x.away(0), 24);
         due("18 away 1", x.away(1), 72);
@@ -688,7 +669,7 @@ public final class PromisesTest {
     }
 
     private static void join() {
-        TwinTools x = people(HAND, HAND, HAND);
+        TwinTools x = Checks.people(HAND, HAND, HAND);
         due("20 no tools", x.join(-1), 0);
         due("20 no tools, k", x.join(0), -10001);
         x.tool(0, 0);
@@ -723,8 +704,8 @@ public final class PromisesTest {
     }
 
     private static void trialAndClear() {
-        TwinTools x = people(HAND);
-        pairs(x, 0, 0);
+        TwinTools x = Checks.people(HAND);
+        Checks.pairs(x, 0, 0);
         due("21 a", x.trial(2, 2, true), NONE);
         due("21 b", x.trial(0, -1, true), NONE);
         due("21 one", x.trial(1, 1, true), BAD);
@@ -740,8 +721,8 @@ public final class PromisesTest {
     }
 
     private static void find() {
-        TwinTools x = people(HAND);
-        pairs(x, 0, 0, 0, 0, 0, 0);
+        TwinTools x = Checks.people(HAND);
+        Checks.pairs(x, 0, 0, 0, 0, 0, 0);
         x.tool(0, 0);
         due("23 all", x.find(0), 127);
         due("23 try", x.find(1), 0);
@@ -765,14 +746,14 @@ public final class PromisesTest {
         due("23 by the twins of now", x.find(0), 127 - 5);
         due("23 what 2", x.find(2), NONE);
         due("23 what -1", x.find(-1), NONE);
-        TwinTools y = people(HAND);
+        TwinTools y = Checks.people(HAND);
         y.tool(0, 0);
         due("23 no pairs", y.find(1), NOTHING);
     }
 
     private static void fits() {
-        TwinTools x = people(HAND);
-        pairs(x, 0, 0, 0, 0, 0);
+        TwinTools x = Checks.people(HAND);
+        Checks.pairs(x, 0, 0, 0, 0, 0);
         due("24 all others", x.fits(1), 31 - 2);
         x.trial(1, 3, false);
         due("24 not that", x.fits(1), 31 - 2 - 8);
@@ -816,9 +797,9 @@ public final class PromisesTest {
     }
 
     private static void bookAndLooked() {
-        TwinTools x = people(HAND, HAND);
+        TwinTools x = Checks.people(HAND, HAND);
         x.free(1, 3);
-        pairs(x, 0, 1);
+        Checks.pairs(x, 0, 1);
         x.tool(0, 0);
         due("27 no rows", x.looked(), NOTHING);
         due("26 book", x.book(0, 0), 1);
@@ -911,8 +892,8 @@ public final class PromisesTest {
     }
 
     private static void imageAndUndo() {
-        TwinTools x = people(TOLD, HAND);
-        pairs(x, 0, 1, 0);
+        TwinTools x = Checks.people(TOLD, HAND);
+        Checks.pairs(x, 0, 1, 0);
         x.row(0, 2, 1);
         Checks.valley(x, "bell 5");
         Checks.feed(x, "bell");
@@ -946,7 +927,7 @@ public final class PromisesTest {
         x.free(0, ALL);
         x.free(1, ALL);
         x.row(1, 0, 3);
-        pairs(x, 0, 1);
+        Checks.pairs(x, 0, 1);
         x.broken(1, true);
         x.trial(0, 1, true);
         due("32 undo", x.undo(), 0);
@@ -1014,8 +995,8 @@ public final class PromisesTest {
     }
 
     private static void count() {
-        TwinTools x = people(HAND, HAND);
-        pairs(x, 0, 0, 0);
+        TwinTools x = Checks.people(HAND, HAND);
+        Checks.pairs(x, 0, 0, 0);
         Checks.valley(x, "bell 1");
         x.feed('a');
         x.feed('b');
@@ -1036,8 +1017,8 @@ public final class PromisesTest {
 
     private static void wildArguments() {
         int[] wild = {LOW, -10, -2, -1, 10, 12, 24, 31, 32, 100, 1 << 24, HIGH};
-        TwinTools x = people(TOLD, LATE);
-        pairs(x, 0, 1);
+        TwinTools x = Checks.people(TOLD, LATE);
+        Checks.pairs(x, 0, 1);
         for (int w : wild) {
             due("wild person", x.free(w, 0), NONE);
             due("wild tool", x.broken(w, true), NONE);
