@@ -3,7 +3,7 @@ public final class DayEdgesTest {
     private static final int NONE = -1, NOTHING = -5, UNJOINED = -9, NO_SUM = -10001;
     private static final int LOW = Integer.MIN_VALUE, HIGH = Integer.MAX_VALUE;
     private static final int ALL = Checks.ALL_HOURS, FIRST = 1, LAST = 1 << 23;
-    private static final int HAND = 0, BELL = 1, TOLD = 6;
+    private static final int HAND = 0, BELL = 1, LIFTING = 4, LATE = 5, TOLD = 6;
     private static final Checks CHECKS = new Checks();
 
     public static void main(String[] args) {
@@ -20,6 +20,7 @@ public final class DayEdgesTest {
         many();
         emptyDay();
         allWorthAndWaiting();
+        hoursAreTwentyFour();
         bestDay();
         dayRefused();
         changeNone();
@@ -175,8 +176,8 @@ public final class DayEdgesTest {
         due("the one alone, last", x.hour(23, 4), 0);
         CHECKS.sentence("CAN: .. FREE then, whatever their KIND would do.");
         TwinTools y = new TwinTools();
-        y.person(5, 9, 0);
-        y.person(4, 1, 0);
+        y.person(LATE, 9, 0);
+        y.person(LIFTING, 1, 0);
         y.person(BELL, 0, 1);
         y.free(0, 2);
         y.free(1, 0);
@@ -294,6 +295,27 @@ public final class DayEdgesTest {
         TwinTools y = hands(8);
         Checks.pairs(y, 0, 0, 1, 1, 2, 2, 3, 3, 4, 4);
         due("five always, three have none", y.day(1), 5 * 24);
+    }
+
+    /** Those who come whether they are FREE then or not must not come in a 25th HOUR. */
+    private static void hoursAreTwentyFour() {
+        CHECKS.sentence("HOURS: 24, for LIFTING and LATE too.");
+        int[][] sorts = {{LIFTING, 0}, {LATE, ALL}};
+        for (int[] sort : sorts) {
+            TwinTools x = new TwinTools();
+            x.person(sort[0], 0, 0);
+            x.person(sort[0], 1, 0);
+            x.free(0, sort[1]);
+            x.free(1, sort[1]);
+            Checks.pairs(x, 0, 1);
+            Checks.valley(x, "worth 3 h<24");
+            due("kind " + sort[0] + ", GONE", x.of(0, 4), ALL);
+            due("kind " + sort[0] + ", ALL WORTH", x.day(0), 24 * 3);
+            due("kind " + sort[0] + ", WAITING", x.day(1), 0);
+            x.broken(1, true);
+            due("kind " + sort[0] + ", GONE of a BROKEN one's", x.of(0, 4), 0);
+            due("kind " + sort[0] + ", WAITING", x.day(1), 24);
+        }
     }
 
     private static void bestDay() {
@@ -507,6 +529,15 @@ public final class DayEdgesTest {
         for (int k = 0; k < 6; k++) {
             due("join(" + k + ")", x.join(k), 5 - k);
         }
+        CHECKS.sentence("JOIN: all TOOLS .., each with another one: with none that is not there.");
+        TwinTools y = hands(3);
+        y.free(2, 0);
+        for (int holder : new int[] {1, 2, 2, 2, 2, 2}) {
+            y.tool(0, holder);
+        }
+        Checks.valley(y, "worth 7 h<24");
+        due("one alone is there to work", y.join(-1), 0);
+        due("so the first row", y.join(0), 1);
         CHECKS.sentence("JOIN: .. greatest, though not more than 0.");
         Checks.valley(x, "less 7 h<24");
         due("best day", x.join(-1), 0);

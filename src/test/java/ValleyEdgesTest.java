@@ -192,6 +192,10 @@ public final class ValleyEdgesTest {
         due("worth in its hour", y.worth(0, 0), 16);
         due("worth in another hour", y.worth(0, 1), 0);
         due("bell", y.day(3), 6);
+        Checks.valley(y, "worth 1 !h=1?");
+        due("the one behind", Checks.valley(y, "worth 16 h=0"), 1);
+        due("worth in its hour", y.worth(0, 0), 16);
+        due("worth in another hour", y.worth(0, 1), 0);
     }
 
     private static void faultAtTheEnds() {
