@@ -14,11 +14,10 @@ public final class TwinTools {
 
     private final World now = new World();
     private final World kept = new World();
-    private final World guess = new World();
     private boolean hasKept = false;
-    private final Plan plan = new Plan(now);
+    private final Plan plan = new Plan();
     private final Trace ran = new Trace();
-    private Valley spare = new Valley(now.tape);
+    private Valley spare = new Valley();
 
     public TwinTools() {
     }
@@ -41,7 +40,7 @@ public final class TwinTools {
         if (now.valleyCount >= MAX_VALLEYS) {
             return FULL;
         }
-        int fault = spare.read(now.signs);
+        int fault = spare.read(now.tape, now.signs);
         now.signs = 0;
         if (fault != Valley.SOUND) {
             return FAULTY - fault;
@@ -49,7 +48,7 @@ public final class TwinTools {
         now.valleys[now.valleyCount] = spare;
         now.valleyCount++;
         // The worlds keep the one that was read, so the next text is read by another.
-        spare = new Valley(now.tape);
+        spare = new Valley();
         return now.valleyCount - 1;
     }
 
@@ -222,8 +221,7 @@ public final class TwinTools {
         if (what < 0 || what > 2) {
             return NONE;
         }
-        guess.copyFrom(now);
-        plan.seekChange(guess);
+        plan.seekChange(now);
         switch (what) {
             case 0: return plan.changeOne;
             case 1: return plan.changeOther;
@@ -235,16 +233,14 @@ public final class TwinTools {
         if (!now.hasPerson(person)) {
             return NO_SUM;
         }
-        guess.copyFrom(now);
-        return plan.lostWithout(guess, person);
+        return plan.lostWithout(now, person);
     }
 
     public int worst() {
-        guess.copyFrom(now);
         int worst = NOTHING;
         int most = -1;
         for (int p = 0; p < now.peopleCount; p++) {
-            int lost = plan.lostWithout(guess, p);
+            int lost = plan.lostWithout(now, p);
             if (lost > most) {
                 most = lost;
                 worst = p;
@@ -260,8 +256,7 @@ public final class TwinTools {
         if (now.toolCount > MAX_JOINED || now.toolCount % 2 != 0) {
             return UNJOINED;
         }
-        guess.copyFrom(now);
-        plan.seekJoin(guess);
+        plan.seekJoin(now);
         return k == -1 || k >= MAX_JOINED ? plan.joinBest : plan.joinRow[k];
     }
 
@@ -641,7 +636,9 @@ public final class TwinTools {
 
     /** What the hours of a world come to; its rows are used again for every question. */
     private static final class Plan {
-        World world;
+        // What would be is tried out here, so that what is asked changes nothing.
+        private final World guess = new World();
+        World world = guess;
         int bell = Valley.USUAL_BELL;
         final int[][] worth = new int[MAX_TOOLS][HOURS];
         // Tools as bits: by who holds them, and by who holds their twins.
@@ -663,8 +660,7 @@ public final class TwinTools {
         final int[] joinRow = new int[MAX_JOINED];
         int joinBest = 0;
 
-        Plan(World first) {
-            world = first;
+        Plan() {
         }
 
         /** Everything below tells of the world that was looked at last, as it was then. */
@@ -883,12 +879,13 @@ public final class TwinTools {
             changeOne = NOTHING;
             changeOther = NOTHING;
             changeMore = 0;
-            for (int a = 0; a < at.toolCount; a++) {
-                for (int b = a + 1; b < at.toolCount; b++) {
-                    if (at.holder[a] != at.holder[b]) {
-                        at.changeHolders(a, b);
-                        look(at);
-                        at.changeHolders(a, b);
+            guess.copyFrom(at);
+            for (int a = 0; a < guess.toolCount; a++) {
+                for (int b = a + 1; b < guess.toolCount; b++) {
+                    if (guess.holder[a] != guess.holder[b]) {
+                        guess.changeHolders(a, b);
+                        look(guess);
+                        guess.changeHolders(a, b);
                         keepChange(a, b, bestDay() - before);
                     }
                 }
@@ -906,40 +903,40 @@ public final class TwinTools {
         int lostWithout(World at, int person) {
             look(at);
             int before = bestDay();
-            int hours = at.free[person];
-            at.free[person] = 0;
-            look(at);
-            at.free[person] = hours;
+            guess.copyFrom(at);
+            guess.free[person] = 0;
+            look(guess);
             return before - bestDay();
         }
 
         void seekJoin(World at) {
-            Arrays.fill(at.twin, NOTHING);
+            guess.copyFrom(at);
+            Arrays.fill(guess.twin, NOTHING);
             joinBest = -1;
-            joinRest(at, 0);
+            joinRest(0);
         }
 
         /** The least single tool takes each other one in turn, so that the rows of twins come in their order. */
-        private void joinRest(World at, int joined) {
-            int a = at.leastSingle();
+        private void joinRest(int joined) {
+            int a = guess.leastSingle();
             if (a < 0 || joined >= MAX_JOINED / 2) {
-                look(at);
-                keepJoin(at, bestDay());
+                look(guess);
+                keepJoin(bestDay());
                 return;
             }
-            for (int b = a + 1; b < at.toolCount; b++) {
-                if (at.twin[b] < 0) {
-                    at.pairUp(a, b);
-                    joinRest(at, joined + 1);
-                    at.part(a);
+            for (int b = a + 1; b < guess.toolCount; b++) {
+                if (guess.twin[b] < 0) {
+                    guess.pairUp(a, b);
+                    joinRest(joined + 1);
+                    guess.part(a);
                 }
             }
         }
 
-        private void keepJoin(World at, int best) {
+        private void keepJoin(int best) {
             if (best > joinBest) {
                 joinBest = best;
-                System.arraycopy(at.twin, 0, joinRow, 0, MAX_JOINED);
+                System.arraycopy(guess.twin, 0, joinRow, 0, MAX_JOINED);
             }
         }
     }
@@ -962,21 +959,21 @@ public final class TwinTools {
         private int stepCount = 0;
         private final int[] facts = new int[LETTERS];
         private final int[] parts = new int[MAX_PARTS];
-        private final byte[] text;
+        private final byte[] text = new byte[MAX_SIGNS];
         private int size = 0;
         private int place = 0;
         private int number = 0;
 
-        Valley(byte[] tape) {
-            text = tape;
+        Valley() {
         }
 
         /** SOUND, or the FAULT: reading stops with place at the first sign that does not fit. */
-        int read(int signs) {
+        int read(byte[] tape, int signs) {
             bell = USUAL_BELL;
             clauseCount = 0;
             stepCount = 0;
-            size = Math.min(signs, text.length);
+            size = Math.min(signs, MAX_SIGNS);
+            System.arraycopy(tape, 0, text, 0, MAX_SIGNS);
             place = 0;
             for (int i = 1; i <= MAX_CLAUSES; i++) {
                 if (!readClause()) {
